@@ -968,7 +968,7 @@ public final class CraneCampaign {
         }
 
         int at(int hour) {
-            return count > 0 ? row[Math.floorMod(hour, count)] : WIND_WITHOUT_ROW;
+            return count > 0 && hour >= 0 ? row[hour % count] : WIND_WITHOUT_ROW;
         }
 
         int sum() {
