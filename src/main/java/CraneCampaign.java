@@ -710,6 +710,8 @@ public final class CraneCampaign {
             return wind < 3 || wind > 25 ? 0 : rate * Math.min(wind, 12) / 12;
         }
 
+        // The fault is only looked at when the age has grown: an hour of work never worsens it, not
+        // even if the worsening was set below the age.
         void growOlder(int worsening) {
             if (fault == 0 || fault == WORST_FAULT) {
                 return;
@@ -849,6 +851,9 @@ public final class CraneCampaign {
         }
 
         private void removeAt(int index) {
+            if (index < 0 || index >= count) {
+                return;
+            }
             count--;
             for (int i = index; i < count; i++) {
                 turbine[i] = turbine[i + 1];

@@ -108,6 +108,8 @@ public final class FarmTest {
         farm.undo();
         farm.undo();
         Check.due("the first bog after undo", 1, farm.bog(0, 0));
+        farm.undo();
+        Check.due("the need of the second bog after undo", 5, farm.bog(1, 1));
         Check.badArgument("setBog(0, 1)", () -> farm.setBog(0, 1));
         Check.badArgument("setBog(100, 1)", () -> farm.setBog(100, 1));
         Check.badArgument("setBog(5, -1)", () -> farm.setBog(5, -1));

@@ -14,9 +14,11 @@ public final class HourTest {
         workIsDone();
         workWaits();
         workIsForgotten();
+        workIsForgottenForAnotherTarget();
         workStaysWithEmptyPlan();
         faultlessTargets();
         bladesAreUsedInOrder();
+        weightsStayWithTheirBlades();
         Check.finish();
     }
 
@@ -86,6 +88,9 @@ public final class HourTest {
             Check.due("nothing is lost in the hour " + hour, 0, farm.pass(1));
         }
         Check.due("won", 2 * 28, farm.turbine(0, 9));
+        farm.addTurbine(20, 100, 50);
+        Farms.winds(farm, "13");
+        Check.due("no more than with the wind 12", 50, farm.turbine(1, 10));
     }
 
     private static void harbourUnloads() {
@@ -320,6 +325,26 @@ public final class HourTest {
         Check.due("the work on it is forgotten", 0, farm.count(10));
     }
 
+    private static void workIsForgottenForAnotherTarget() {
+        CraneCampaign farm = Farms.readyToServe(4);
+        farm.addTurbine(20, 50, 12);
+        farm.setFault(1, 1);
+        farm.pass(3);
+        farm.plan(1, 0);
+        farm.pass(1);
+        farm.plan(0, 0);
+        Check.due("forgotten by an hour with another target", 0, farm.count(10));
+        farm.undo();
+        farm.undo();
+        farm.undo();
+        Check.due("two hours of work after undo", 2, farm.count(10));
+        farm.plan(1, 0);
+        farm.unplan(0);
+        farm.pass(1);
+        farm.plan(0, 0);
+        Check.due("forgotten, as well, with another target alone", 0, farm.count(10));
+    }
+
     private static void workStaysWithEmptyPlan() {
         CraneCampaign farm = Farms.readyToServe(2);
         farm.addTurbine(20, 50, 12);
@@ -382,5 +407,20 @@ public final class HourTest {
         Check.due("the blade of 1", 1, farm.blade(0, 0));
         Check.due("the blade of 0", 0, farm.blade(1, 0));
         Check.due("faults left", 0, farm.count(1));
+    }
+
+    private static void weightsStayWithTheirBlades() {
+        CraneCampaign farm = Farms.readyToServe(1);
+        farm.addTurbine(20, 150, 12);
+        farm.set(5, 12);
+        farm.orderBlade(1);
+        farm.orderBlade(0);
+        farm.set(2, 1);
+        farm.pass(1);
+        farm.set(5, 1);
+        farm.pass(1);
+        Check.due("the blade is used", 2, farm.count(13));
+        Check.due("weight of the next one", 15 - 3, farm.blade(0, 1));
+        Check.due("weight of the last one", 10, farm.blade(1, 1));
     }
 }

@@ -105,5 +105,11 @@ public final class PlanTest {
         farm.pass(4);
         Check.due("blades after one was used", 9, farm.count(13));
         Check.due("orderBlade after one was used", 10, farm.orderBlade(0));
+        farm.undo();
+        farm.undo();
+        Check.due("blades after undo of the hours", 10, farm.count(13));
+        for (int i = 0; i < 10; i++) {
+            Check.due("weight " + i + " after undo of the hours", 10, farm.blade(i, 1));
+        }
     }
 }

@@ -302,6 +302,13 @@ public final class QuestionTest {
         all.setFault(0, 4);
         all.pass(3);
         shareIs(all, 1.0);
+        Check.due("the digest with the share 1.0", Digest.of(all, ""), all.digest());
+        CraneCampaign one = new CraneCampaign();
+        one.addTurbine(1, 50, 2);
+        one.setFault(0, 4);
+        one.pass(1);
+        Check.due("power lost", 1, one.count(11));
+        shareIs(one, 1.0);
     }
 
     private static void promise28Digest() {
