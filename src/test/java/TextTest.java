@@ -114,7 +114,8 @@ public final class TextTest {
         Check.due("the wind in the hour 9", 6, farm.count(3));
         Check.due("48 numbers", 48, Farms.winds(farm, "8*46,9*2"));
         Check.due("48 numbers in one part", 48, Farms.winds(farm, "12*48"));
-        Check.due("29 numbers of two signs", 20, Farms.winds(farm, "10,11,12,13,14,15,16,17,18,19,20,21,22,23,24,25,26,27,28,29"));
+        Check.due("20 numbers of two signs", 20, Farms.winds(farm,
+                "10,11,12,13,14,15,16,17,18,19,20,21,22,23,24,25,26,27,28,29"));
         Check.due("saved states", 6, farm.count(14));
         farm.undo();
         Check.due("the row of before", 48, farm.count(4));
