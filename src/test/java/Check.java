@@ -6,8 +6,18 @@ final class Check {
 
     private static int asked = 0;
     private static int wrong = 0;
+    private static String about = "";
 
     private Check() {
+    }
+
+    static int asked() {
+        return asked;
+    }
+
+    /** What the next answers are about: it is told with each one that is wrong. */
+    static void about(String text) {
+        about = text;
     }
 
     static void due(String call, long want, long got) {
@@ -38,6 +48,15 @@ final class Check {
         tell(call + " throws nothing, due is " + want.getSimpleName());
     }
 
+    static void dueNothingThrown(String call, Call made) {
+        asked++;
+        try {
+            made.run();
+        } catch (RuntimeException e) {
+            tell(call + " throws " + e + ", due is an answer");
+        }
+    }
+
     static void outOfBounds(String call, Call made) {
         dueThrow(call, IndexOutOfBoundsException.class, made);
     }
@@ -60,7 +79,7 @@ final class Check {
     private static void tell(String text) {
         wrong++;
         if (wrong <= 50) {
-            System.out.println(text);
+            System.out.println(about.isEmpty() ? text : about + " | " + text);
         }
     }
 }

@@ -29,6 +29,64 @@ final class Farms {
         return farm;
     }
 
+    /** At work on the first of three turbines: two have faults, one of two blades is unloaded. */
+    static CraneCampaign inUse() {
+        CraneCampaign farm = withTurbines(3);
+        winds(farm, "8,12,14,5");
+        farm.set(5, 3);
+        farm.setBog(15, 3);
+        farm.setBog(40, 7);
+        farm.setFault(0, 1);
+        farm.setFault(2, 2);
+        farm.orderBlade(0);
+        farm.orderBlade(2);
+        farm.plan(0, 0);
+        farm.plan(2, 1);
+        farm.plan(1, 2);
+        farm.pass(5);
+        write(farm, "9*2,");
+        return withRoomForStates(farm);
+    }
+
+    /** The same one two hours later, on the way to the last turbine. */
+    static CraneCampaign onItsWay() {
+        CraneCampaign farm = inUse();
+        farm.plan(2, 0);
+        farm.pass(2);
+        return withRoomForStates(farm);
+    }
+
+    /** Leaves three saved states, so that more can be saved without a loss. */
+    private static CraneCampaign withRoomForStates(CraneCampaign farm) {
+        for (int i = 0; i < 3; i++) {
+            farm.setBog(98, 0);
+        }
+        int more = farm.count(14) - 3;
+        for (int i = 0; i < more; i++) {
+            farm.undo();
+        }
+        return farm;
+    }
+
+    /** As much of each as there can be: turbines, bogs, blades, winds, states, a plan and a text. */
+    static CraneCampaign crowded() {
+        CraneCampaign farm = new CraneCampaign();
+        winds(farm, "3,12*20,30,0*6,17*20");
+        for (int t = 0; t < 10; t++) {
+            farm.addTurbine(9 * t + 9, 50 + 12 * t, 5 * t + 5);
+        }
+        farm.pass(5);
+        for (int i = 0; i < 6; i++) {
+            farm.setBog(10 + 15 * i, 50 - i);
+        }
+        for (int t = 0; t < 10; t++) {
+            farm.setFault(t, 1 + t % 4);
+            farm.orderBlade(9 - t);
+            farm.plan(t, t / 2);
+        }
+        return write(farm, "30*48,30*48,30*48,30*48,30*48,30*48,30*48,30*48,30*48,30*48,");
+    }
+
     static CraneCampaign write(CraneCampaign farm, String text) {
         for (int i = 0; i < text.length(); i++) {
             farm.append(text.charAt(i));

@@ -312,19 +312,25 @@ public final class QuestionTest {
     }
 
     private static void promise28Digest() {
-        CraneCampaign farm = new CraneCampaign();
-        Check.due("the digest of a new object", Digest.of(farm, ""), farm.digest());
-        farm = withThreeFaults();
-        farm.setBog(30, 5);
-        farm.setBog(70, 2);
+        CraneCampaign empty = new CraneCampaign();
+        Check.due("the digest of a new object", Digest.of(empty, ""), empty.digest());
+        CraneCampaign farm = withBogsAndThreeFaults();
         Check.due("the digest with an error in the buffer", Digest.of(Farms.write(farm, "1,~!"), "1,~!"),
                 farm.digest());
-        Farms.winds(farm, "0,1,2*3,17,9,30");
-        for (int i = 0; i < 40; i++) {
-            farm.pass(1 + i % 7);
-            Check.due("the digest after some hours", Digest.of(farm, ""), farm.digest());
-            Check.due("the digest again", farm.digest(), farm.digest());
+        for (int hours = 1; hours <= 160; hours += 4) {
+            CraneCampaign later = withBogsAndThreeFaults();
+            Farms.winds(later, "0,1,2*3,17,9,30");
+            later.pass(hours);
+            Check.due("the digest after " + hours + " hours", Digest.of(later, ""), later.digest());
+            Check.due("the digest again", later.digest(), later.digest());
         }
+    }
+
+    private static CraneCampaign withBogsAndThreeFaults() {
+        CraneCampaign farm = withThreeFaults();
+        farm.setBog(30, 5);
+        farm.setBog(70, 2);
+        return farm;
     }
 
     private static void promise28OfEachPart() {
@@ -338,12 +344,14 @@ public final class QuestionTest {
             farm.pass(48);
             Check.due("the digest with the winds " + row + " and hours", Digest.of(farm, ""), farm.digest());
         }
-        CraneCampaign little = Farms.withTurbines(10);
-        little.setFault(0, 1);
-        little.pass(1);
-        little.setFault(0, 0);
-        for (int i = 0; i < 40; i++) {
-            little.pass(200);
+        for (int rounds = 1; rounds <= 40; rounds++) {
+            CraneCampaign little = Farms.withTurbines(10);
+            little.setFault(0, 1);
+            little.pass(1);
+            little.setFault(0, 0);
+            for (int i = 0; i < rounds; i++) {
+                little.pass(200);
+            }
             Check.due("the digest with a small share", Digest.of(little, ""), little.digest());
         }
     }
