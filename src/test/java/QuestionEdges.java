@@ -385,6 +385,15 @@ final class QuestionEdges {
             windows = withWinds("13,12,13,12*2,13,12*3,13,12*4");
             windows.pass(hour + 1);
         }
+        for (int turbines = 1; turbines <= 10; turbines++) {
+            for (int fault = 1; fault <= 4; fault++) {
+                CraneCampaign farm = Farms.withTurbines(turbines);
+                farm.setFault(0, fault);
+                farm.pass(1);
+                shareIs("of one of " + turbines, farm, fault / (4.0 * turbines));
+                Check.due("with this share", Digest.of(farm, ""), farm.digest());
+            }
+        }
         String[] rows = {"0", "1", "2", "30", "0*47,1", "0,0,1", "7,8", "15,16", "30*47,29", "31,0", "!~"};
         for (String row : rows) {
             CraneCampaign farm = Farms.inUse();
